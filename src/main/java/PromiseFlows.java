@@ -29,7 +29,7 @@ public final class PromiseFlows {
     private final Goods goods = new Goods();
     private final Arrivals arrivals = new Arrivals();
     private final Orders orders = new Orders();
-    private final Takings takings = new Takings(arrivals);
+    private final Takings takings = new Takings();
 
     public PromiseFlows() {
     }
@@ -227,7 +227,9 @@ public final class PromiseFlows {
     }
 
     private static void needNotBelowZero(int i) {
-        needWithin(i, 0, Integer.MAX_VALUE);
+        if (i < 0) {
+            throw new IllegalArgumentException("a place below 0");
+        }
     }
 
     private void needArrival(int arrival) {
@@ -250,8 +252,7 @@ public final class PromiseFlows {
 
     /** Covers the orders by rank and plans anew; answers how many are fallen. */
     private int settle() {
-        arrivals.sortByTime();
-        takings.clear();
+        takings.clear(arrivals);
         for (int i = 0; i < orders.number; i++) {
             int order = orders.byRank[i];
             if (orders.states[order] != CLOSED) {
@@ -446,14 +447,13 @@ public final class PromiseFlows {
         }
     }
 
-    /** The arrivals as they came, and their order by time. */
+    /** The arrivals as they came. */
     private static final class Arrivals {
         private int number = 0;
         private final int[] times = new int[ARRIVALS];
         private final int[] goods = new int[ARRIVALS];
         private final int[] brought = new int[ARRIVALS];
         private final int[] setAside = new int[ARRIVALS];
-        private final int[] byTime = new int[ARRIVALS];
 
         private int add(int time, int good, int n) {
             times[number] = time;
@@ -494,7 +494,8 @@ public final class PromiseFlows {
             return sum;
         }
 
-        private void sortByTime() {
+        /** Fills a row with the arrivals by time, of equal ones by number. */
+        private void sortByTime(int[] byTime) {
             for (int a = 0; a < number; a++) {
                 int at = a;
                 while (at > 0 && times[byTime[at - 1]] > times[a]) {
@@ -558,7 +559,8 @@ public final class PromiseFlows {
 
     /** What demands take from arrivals: a flow that is made greater along paths on which others give way. */
     private static final class Takings {
-        private final Arrivals arrivals;
+        private int arrivals = 0;
+        private final int[] byTime = new int[ARRIVALS];
         private final int[] room = new int[ARRIVALS];
         private final int[] taken = new int[DEMANDS * ARRIVALS];
         private final int[] usable = new int[DEMANDS];
@@ -568,13 +570,12 @@ public final class PromiseFlows {
         private final int[] reachedFrom = new int[ARRIVALS];
         private final int[] reachedBy = new int[ARRIVALS];
 
-        private Takings(Arrivals arrivals) {
-            this.arrivals = arrivals;
-        }
-
-        private void clear() {
-            for (int a = 0; a < arrivals.number; a++) {
-                room[a] = arrivals.free(a);
+        /** Nothing is taken from these arrivals, as they are now. */
+        private void clear(Arrivals all) {
+            arrivals = all.number;
+            all.sortByTime(byTime);
+            for (int a = 0; a < arrivals; a++) {
+                room[a] = all.free(a);
             }
             for (int i = 0; i < taken.length; i++) {
                 taken[i] = 0;
@@ -592,7 +593,7 @@ public final class PromiseFlows {
         }
 
         private void giveBack(int demand) {
-            for (int a = 0; a < arrivals.number; a++) {
+            for (int a = 0; a < arrivals; a++) {
                 room[a] += taken[demand * ARRIVALS + a];
                 taken[demand * ARRIVALS + a] = 0;
             }
@@ -614,8 +615,8 @@ public final class PromiseFlows {
         private int take(int demand, int wanted, int loose) {
             int others = loose & ~(1 << demand);
             int missing = wanted;
-            for (int i = 0; i < arrivals.number && missing > 0; i++) {
-                int arrival = arrivals.byTime[i];
+            for (int i = 0; i < arrivals && missing > 0; i++) {
+                int arrival = byTime[i];
                 if (hasBit(usable[demand], arrival)) {
                     missing = takeFrom(demand, arrival, missing, others);
                 }
@@ -652,7 +653,7 @@ public final class PromiseFlows {
         private int spread(int some, int loose) {
             int reached = some;
             int length = reach(some, 0, -1, -1);
-            for (int i = 0; i < length; i++) {
+            for (int i = 0; i < length && i < ARRIVALS; i++) {
                 int arrival = reachedInTurn[i];
                 for (int demand = 0; demand < DEMANDS; demand++) {
                     int more = usable[demand] & ~reached;
@@ -667,7 +668,7 @@ public final class PromiseFlows {
 
         private int reach(int some, int length, int from, int by) {
             int at = length;
-            for (int a = 0; a < arrivals.number; a++) {
+            for (int a = 0; a < arrivals; a++) {
                 if ((some >> a & 1) != 0 && at < ARRIVALS) {
                     reachedInTurn[at] = a;
                     reachedFrom[a] = from;
@@ -697,7 +698,7 @@ public final class PromiseFlows {
         }
 
         private boolean takesFrom(int demand, int some) {
-            for (int a = 0; a < arrivals.number; a++) {
+            for (int a = 0; a < arrivals; a++) {
                 if (hasBit(some, a) && taken[demand * ARRIVALS + a] > 0) {
                     return true;
                 }
@@ -707,7 +708,7 @@ public final class PromiseFlows {
 
         private int partsOf(int demand) {
             int parts = 0;
-            for (int a = 0; a < arrivals.number; a++) {
+            for (int a = 0; a < arrivals; a++) {
                 if (taken[demand * ARRIVALS + a] > 0) {
                     parts++;
                 }
@@ -718,8 +719,8 @@ public final class PromiseFlows {
         /** Of the i-th part in the order of the plan: its arrival, or how many. */
         private int partOf(int demand, int i, boolean wantsArrival) {
             int passed = 0;
-            for (int turn = 0; turn < arrivals.number; turn++) {
-                int arrival = arrivals.byTime[turn];
+            for (int turn = 0; turn < arrivals; turn++) {
+                int arrival = byTime[turn];
                 int n = taken[demand * ARRIVALS + arrival];
                 if (n > 0) {
                     if (passed == i) {
