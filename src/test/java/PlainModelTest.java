@@ -3,6 +3,7 @@ import java.util.List;
 
 /** Long runs of calls, the same ones every time, on the class and on the plain model. */
 public final class PlainModelTest {
+    /** The document says nothing of what an object answers behind these. */
     private static final int CALLS = 512;
 
     private final Due due;
@@ -24,22 +25,24 @@ public final class PlainModelTest {
 
     public static void main(String[] args) {
         Due due = new Due("PlainModelTest");
-        for (int run = 0; run < 300 && due.allRight(); run++) {
-            new PlainModelTest(due, run, 2 + run % 5, run % 3 == 0 ? 1000000 : 10 + run, 1 + run % 12).run();
+        for (int run = 0; run < 4000 && due.allRight(); run++) {
+            new PlainModelTest(due, run, 2 + run % 5, run % 3 == 0 ? 1000000 : 10 + run % 300, 1 + run % 12).run();
         }
-        for (int run = 1000; run < 1012 && due.allRight(); run++) {
+        for (int run = 10000; run < 10300 && due.allRight(); run++) {
             new PlainModelTest(due, run, 10, 40, 3).run();
         }
         due.end();
     }
 
     private void run() {
-        for (int i = 0; i < CALLS && due.allRight(); i++) {
+        int changes = 10 + next(180);
+        for (int i = 0; i < changes && due.allRight(); i++) {
             call(i < 20 ? next(10) : next(100));
-            if (i % 8 == 7) {
-                lookAtAll();
+            if (next(3) == 0) {
+                lookAtOne(next(6));
             }
         }
+        lookAtAll();
         if (!due.allRight()) {
             calls.forEach(System.out::println);
         }
@@ -63,6 +66,9 @@ public final class PlainModelTest {
     }
 
     private void same(String call, Due.Call byModel, Due.Call byProgram) {
+        if (calls.size() >= CALLS || !due.allRight()) {
+            return;
+        }
         String want = Due.outcome(byModel);
         calls.add(call + " = " + want);
         due.same(call, want, Due.outcome(byProgram));
@@ -123,7 +129,7 @@ public final class PlainModelTest {
         int n = next(8) == 0 ? most + next(2) : 1 + next(Math.max(1, most / 3));
         int rank = next(40) == 0 ? 10 * next(2) : 1 + next(9);
         // An object takes ten orders in all: later ones are worth more in a run that has changed much.
-        if (model.count(1) < 4 || next(6) == 0) {
+        if (model.count(1) < 4 || next(4) == 0) {
             same("order(" + time + ", " + good + ", " + n + ", " + rank + ")",
                     () -> model.order(time, good, n, rank), () -> program.order(time, good, n, rank));
         }
@@ -153,6 +159,30 @@ public final class PlainModelTest {
         int order = next(11) - next(20) / 19;
         if (next(4) == 0) {
             same("close(" + order + ")", () -> model.close(order), () -> program.close(order));
+        }
+    }
+
+    private void lookAtOne(int which) {
+        int good = good();
+        int time = time();
+        int order = next(11);
+        int i = next(5);
+        int what = next(6);
+        if (which == 0) {
+            same("promise(" + good + ", " + time + ")",
+                    () -> model.promise(good, time), () -> program.promise(good, time));
+        } else if (which == 1) {
+            same("bars(" + good + ", " + time + ", " + i + ")",
+                    () -> model.bars(good, time, i), () -> program.bars(good, time, i));
+        } else if (which == 2) {
+            same("flow(" + order + ", " + i + ", " + what + ")",
+                    () -> model.flow(order, i, what), () -> program.flow(order, i, what));
+        } else if (which == 3) {
+            same("left(" + order + ")", () -> model.left(order), () -> program.left(order));
+        } else if (which == 4) {
+            same("state(" + order + ")", () -> model.state(order), () -> program.state(order));
+        } else {
+            same("count(" + what + ")", () -> model.count(what), () -> program.count(what));
         }
     }
 

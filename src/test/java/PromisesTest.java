@@ -1,30 +1,24 @@
 import java.util.NoSuchElementException;
 
-/** Each promise of the document by hand: ordinary inputs, the edges it names, and wrong inputs. */
+/** Each promise of the document by hand, in the ordinary course of calls; the edges have tests of their own. */
 public final class PromisesTest {
     private static final Class<IllegalArgumentException> ARGUMENT = IllegalArgumentException.class;
     private static final Class<IllegalStateException> STATE = IllegalStateException.class;
     private static final Class<NoSuchElementException> NONE = NoSuchElementException.class;
     private static final Class<UnsupportedOperationException> ROOM = UnsupportedOperationException.class;
-    private static final int[] FAR = {-1, Integer.MIN_VALUE, Integer.MAX_VALUE};
 
     private static final Due due = new Due("PromisesTest");
 
     public static void main(String[] args) {
         newObject();
         arrivals();
-        arrivalRefusals();
         arrivalCoversFallen();
         changes();
-        changeRefusals();
         setAside();
         lives();
         standIns();
-        standInRefusals();
         kits();
-        kitRefusals();
         orders();
-        orderRefusals();
         ranks();
         closing();
         promises();
@@ -34,12 +28,9 @@ public final class PromisesTest {
         barsOfKitOrders();
         flows();
         planGivesWayToLaterDemands();
-        flowRefusals();
         states();
         lefts();
         counts();
-        refusedChangesNothing();
-        farNumbers();
         due.end();
     }
 
@@ -74,22 +65,6 @@ public final class PromisesTest {
         due.answers("2 not before", 0, () -> y.promise(5, 98));
     }
 
-    private static void arrivalRefusals() {
-        PromiseFlows x = new PromiseFlows();
-        x.kit(3, 0, 1);
-        due.refuses("2 time", ARGUMENT, () -> x.arrival(100, 0, 1));
-        due.refuses("2 good", ARGUMENT, () -> x.arrival(0, 6, 1));
-        due.refuses("2 n below 0", ARGUMENT, () -> x.arrival(0, 0, -1));
-        due.refuses("2 n above", ARGUMENT, () -> x.arrival(0, 0, 1000001));
-        due.refuses("2 a kit", STATE, () -> x.arrival(0, 3, 1));
-        due.refuses("2 a wrong number before a kit", ARGUMENT, () -> x.arrival(0, 3, 1000001));
-        for (int i = 0; i < 10; i++) {
-            x.arrival(0, 0, 1);
-        }
-        due.refuses("2 a kit before no room", STATE, () -> x.arrival(0, 3, 1));
-        due.refuses("2 a wrong number before no room", ARGUMENT, () -> x.arrival(-1, 0, 1));
-    }
-
     private static void arrivalCoversFallen() {
         PromiseFlows x = new PromiseFlows();
         x.arrival(0, 0, 10);
@@ -113,22 +88,6 @@ public final class PromisesTest {
         due.answers("3 none of it", 2, () -> x.change(0, 0, 0));
         due.answers("3 both again", 0, () -> x.change(0, 5, 10));
         due.answers("3 at the due time itself", 0, () -> x.state(0));
-    }
-
-    private static void changeRefusals() {
-        PromiseFlows x = new PromiseFlows();
-        due.refuses("3 no arrival", NONE, () -> x.change(0, 0, 0));
-        x.arrival(3, 0, 10);
-        x.aside(0, 4);
-        due.refuses("3 no arrival before wrong numbers", NONE, () -> x.change(1, -1, -1));
-        due.refuses("3 below", NONE, () -> x.change(-1, 0, 0));
-        due.refuses("3 time", ARGUMENT, () -> x.change(0, 100, 10));
-        due.refuses("3 n above", ARGUMENT, () -> x.change(0, 0, 1000001));
-        due.refuses("3 n below 0 before less than set aside", ARGUMENT, () -> x.change(0, 0, -1));
-        due.refuses("3 wrong time before less than set aside", ARGUMENT, () -> x.change(0, -1, 3));
-        due.refuses("3 less than set aside", STATE, () -> x.change(0, 0, 3));
-        due.answers("3 as much as is set aside", 0, () -> x.change(0, 0, 4));
-        due.answers("3 nothing left", 0, () -> x.left(0));
     }
 
     private static void setAside() {
@@ -196,23 +155,6 @@ public final class PromisesTest {
         due.answers("6 a stand-in's stand-in is none", 0, () -> y.promise(2, 0));
     }
 
-    private static void standInRefusals() {
-        PromiseFlows x = new PromiseFlows();
-        x.kit(5, 4, 1);
-        due.refuses("6 other above", ARGUMENT, () -> x.standIn(6, 0, true));
-        due.refuses("6 other below", ARGUMENT, () -> x.standIn(-1, 0, true));
-        due.refuses("6 good above", ARGUMENT, () -> x.standIn(0, 6, true));
-        due.refuses("6 good below", ARGUMENT, () -> x.standIn(0, -1, false));
-        due.refuses("6 the same", ARGUMENT, () -> x.standIn(0, 0, true));
-        due.refuses("6 the same, not", ARGUMENT, () -> x.standIn(0, 0, false));
-        due.refuses("6 the first is a kit", STATE, () -> x.standIn(5, 0, true));
-        due.refuses("6 the second is a kit", STATE, () -> x.standIn(0, 5, true));
-        due.refuses("6 was not", STATE, () -> x.standIn(0, 1, false));
-        x.standIn(0, 1, true);
-        due.refuses("6 was", STATE, () -> x.standIn(0, 1, true));
-        due.answers("6 a part may", 0, () -> x.standIn(4, 0, true));
-    }
-
     private static void kits() {
         PromiseFlows x = new PromiseFlows();
         due.answers("7 one part", 1, () -> x.kit(5, 0, 100));
@@ -226,42 +168,6 @@ public final class PromisesTest {
         x.arrival(0, 2, 9);
         due.answers("7 the scarcest part decides", 4, () -> x.promise(5, 0));
         due.answers("7 the other kit", 1000, () -> x.promise(4, 0));
-    }
-
-    private static void kitRefusals() {
-        PromiseFlows x = new PromiseFlows();
-        due.refuses("7 good", ARGUMENT, () -> x.kit(6, 0, 1));
-        due.refuses("7 part", ARGUMENT, () -> x.kit(0, 6, 1));
-        due.refuses("7 n below", ARGUMENT, () -> x.kit(0, 1, 0));
-        due.refuses("7 n above", ARGUMENT, () -> x.kit(0, 1, 101));
-        due.refuses("7 wrong number before the same", ARGUMENT, () -> x.kit(0, 0, 0));
-        due.refuses("7 the same", STATE, () -> x.kit(0, 0, 1));
-        x.kit(0, 1, 1);
-        due.refuses("7 the part is a kit", STATE, () -> x.kit(2, 0, 1));
-        due.refuses("7 the good is a part", STATE, () -> x.kit(1, 2, 1));
-        x.standIn(2, 3, true);
-        due.refuses("7 stands in", STATE, () -> x.kit(2, 4, 1));
-        due.refuses("7 is stood in for", STATE, () -> x.kit(3, 4, 1));
-        x.standIn(2, 3, false);
-        due.answers("7 not any more", 1, () -> x.kit(3, 4, 1));
-        x.arrival(0, 5, 0);
-        due.refuses("7 has an arrival, if of nothing", STATE, () -> x.kit(5, 4, 1));
-        x.arrival(0, 4, 10);
-        x.order(0, 3, 1, 1);
-        due.refuses("7 has an order", STATE, () -> x.kit(3, 1, 1));
-        x.close(0);
-        due.refuses("7 has an order that is closed", STATE, () -> x.kit(3, 1, 1));
-        due.answers("7 none of a refused order", -1, () -> x.order(0, 2, 1, 1));
-        due.answers("7 so it has none", 1, () -> x.kit(2, 1, 1));
-        PromiseFlows y = new PromiseFlows();
-        y.kit(0, 1, 1);
-        y.kit(0, 2, 1);
-        y.kit(0, 3, 1);
-        y.arrival(0, 1, 1);
-        y.arrival(0, 2, 1);
-        y.arrival(0, 3, 1);
-        y.order(0, 0, 1, 1);
-        due.refuses("7 has an order, before no room", STATE, () -> y.kit(0, 4, 1));
     }
 
     private static void orders() {
@@ -287,23 +193,6 @@ public final class PromisesTest {
         y.change(0, 0, 2);
         due.answers("8 a fallen one is not kept", 2, () -> y.arrival(9, 1, 5) + 1);
         due.answers("8 of what is left", 2, () -> y.order(9, 1, 5, 1));
-    }
-
-    private static void orderRefusals() {
-        PromiseFlows x = new PromiseFlows();
-        x.arrival(0, 0, 1000000);
-        due.refuses("8 due above", ARGUMENT, () -> x.order(100, 0, 1, 1));
-        due.refuses("8 due below", ARGUMENT, () -> x.order(-1, 0, 1, 1));
-        due.refuses("8 good above", ARGUMENT, () -> x.order(0, 6, 1, 1));
-        due.refuses("8 good below", ARGUMENT, () -> x.order(0, -1, 1, 1));
-        due.refuses("8 n below", ARGUMENT, () -> x.order(0, 0, 0, 1));
-        due.refuses("8 n above", ARGUMENT, () -> x.order(0, 0, 10001, 1));
-        due.refuses("8 rank below", ARGUMENT, () -> x.order(0, 0, 1, 0));
-        due.refuses("8 rank above", ARGUMENT, () -> x.order(0, 0, 1, 10));
-        for (int i = 0; i < 10; i++) {
-            x.order(0, 0, 1, 1);
-        }
-        due.refuses("8 a wrong number before no room", ARGUMENT, () -> x.order(0, 0, 1, 10));
     }
 
     private static void ranks() {
@@ -524,22 +413,6 @@ public final class PromisesTest {
         due.answers("plan: as much as can be spared", 3, () -> x.flow(2, 0, 2));
     }
 
-    private static void flowRefusals() {
-        PromiseFlows x = new PromiseFlows();
-        x.arrival(0, 0, 10);
-        due.refuses("13 no order before wrong numbers", NONE, () -> x.flow(0, -1, 3));
-        x.order(0, 0, 10, 1);
-        due.refuses("13 below", NONE, () -> x.flow(-1, 0, 0));
-        due.refuses("13 i below 0", ARGUMENT, () -> x.flow(0, -1, 0));
-        due.refuses("13 what above", ARGUMENT, () -> x.flow(0, 0, 3));
-        due.refuses("13 what below", ARGUMENT, () -> x.flow(0, 0, -1));
-        x.change(0, 0, 9);
-        due.refuses("13 fallen", STATE, () -> x.flow(0, 0, 0));
-        due.refuses("13 a wrong number before fallen", ARGUMENT, () -> x.flow(0, 0, 3));
-        x.close(0);
-        due.refuses("13 closed", STATE, () -> x.flow(0, 0, 0));
-    }
-
     private static void states() {
         PromiseFlows x = new PromiseFlows();
         x.arrival(0, 0, 10);
@@ -590,66 +463,6 @@ public final class PromisesTest {
         }
         for (int what : new int[] {-1, 6, Integer.MIN_VALUE, Integer.MAX_VALUE}) {
             due.answers("16 another what", -1, () -> x.count(what));
-        }
-    }
-
-    private static void refusedChangesNothing() {
-        PromiseFlows x = new PromiseFlows();
-        x.arrival(3, 0, 10);
-        x.aside(0, 2);
-        x.order(5, 0, 8, 1);
-        Due.outcome(() -> x.arrival(0, 0, 1000001));
-        Due.outcome(() -> x.change(0, 9, 1));
-        Due.outcome(() -> x.aside(0, 11));
-        Due.outcome(() -> x.life(0, 101));
-        Due.outcome(() -> x.standIn(0, 0, true));
-        Due.outcome(() -> x.kit(0, 1, 1));
-        Due.outcome(() -> x.kit(1, 1, 1));
-        Due.outcome(() -> x.order(5, 0, 1, 10));
-        Due.outcome(() -> x.order(5, 0, 1, 1));
-        int[] want = {1, 1, 1, 0, 8, 8};
-        for (int what = 0; what < want.length; what++) {
-            int w = what;
-            due.answers("refused: count(" + w + ")", want[w], () -> x.count(w));
-        }
-        due.answers("refused: its arrival", 0, () -> x.flow(0, 0, 0));
-        due.answers("refused: no kit", -1, () -> x.bars(1, 0, 0));
-        due.answers("refused: usable at its own time", 0, () -> x.close(0) + x.promise(0, 2));
-        due.answers("refused: usable from then on", 8, () -> x.promise(0, 3));
-    }
-
-    /** Numbers far outside each range: never anything but what the document names. */
-    private static void farNumbers() {
-        PromiseFlows x = new PromiseFlows();
-        x.arrival(0, 0, 10);
-        x.order(0, 0, 5, 1);
-        for (int far : FAR) {
-            due.refuses("far: arrival", ARGUMENT, () -> x.arrival(far, 0, 1));
-            due.refuses("far: arrival's good", ARGUMENT, () -> x.arrival(0, far, 1));
-            due.refuses("far: arrival's n", ARGUMENT, () -> x.arrival(0, 0, far));
-            due.refuses("far: change", NONE, () -> x.change(far, 0, 1));
-            due.refuses("far: change's time", ARGUMENT, () -> x.change(0, far, 1));
-            due.refuses("far: change's n", ARGUMENT, () -> x.change(0, 0, far));
-            due.refuses("far: aside", NONE, () -> x.aside(far, 0));
-            due.refuses("far: aside's n", ARGUMENT, () -> x.aside(0, far));
-            due.refuses("far: life", ARGUMENT, () -> x.life(far, 0));
-            due.refuses("far: life's times", ARGUMENT, () -> x.life(0, far));
-            due.refuses("far: standIn", ARGUMENT, () -> x.standIn(far, far, true));
-            due.refuses("far: kit", ARGUMENT, () -> x.kit(far, far, 1));
-            due.refuses("far: kit's n", ARGUMENT, () -> x.kit(1, 2, far));
-            due.refuses("far: order", ARGUMENT, () -> x.order(far, 0, 1, 1));
-            due.refuses("far: order's good", ARGUMENT, () -> x.order(0, far, 1, 1));
-            due.refuses("far: order's n", ARGUMENT, () -> x.order(0, 0, far, 1));
-            due.refuses("far: order's rank", ARGUMENT, () -> x.order(0, 0, 1, far));
-            due.refuses("far: close", NONE, () -> x.close(far));
-            due.refuses("far: promise", ARGUMENT, () -> x.promise(far, 0));
-            due.refuses("far: promise's time", ARGUMENT, () -> x.promise(0, far));
-            due.refuses("far: share", ARGUMENT, () -> x.share(far, far));
-            due.refuses("far: bars", ARGUMENT, () -> x.bars(far, far, 0));
-            due.refuses("far: flow", NONE, () -> x.flow(far, 0, 0));
-            due.refuses("far: flow's what", ARGUMENT, () -> x.flow(0, 0, far));
-            due.refuses("far: state", NONE, () -> x.state(far));
-            due.refuses("far: left", NONE, () -> x.left(far));
         }
     }
 }
