@@ -30,6 +30,7 @@ public final class PromisesEdgesTest {
         barsByWhatCouldBeUsedInstead();
         barsRefusals();
         flow();
+        flowAndBarsOfAFullObject();
         flowRefusals();
         state();
         left();
@@ -867,6 +868,45 @@ public final class PromisesEdgesTest {
             int i = part;
             edges.answers("13 in the order in which they are planned: " + i, arrivals[i], allParts,
                     x -> x.flow(0, i, 0));
+        }
+    }
+
+    /** 12 and 13: "-1 if there are not so many", where nothing has room left: three parts, ten arrivals. */
+    private static void flowAndBarsOfAFullObject() {
+        Edges.Start full = x -> {
+            x.kit(5, 0, 1);
+            x.kit(5, 1, 1);
+            x.kit(5, 2, 1);
+            x.arrival(0, 1, 10);
+            x.arrival(0, 0, 10);
+            x.arrival(0, 2, 10);
+            for (int i = 3; i < 10; i++) {
+                x.arrival(i, 3, 1);
+            }
+            x.order(99, 5, 3, 1);
+            x.order(99, 3, 7, 1);
+            x.order(99, 1, 2, 1);
+        };
+        int[][][] parts = {{{1, 0, 3}, {0, 1, 3}, {2, 2, 3}},
+            {{3, 3, 1}, {4, 3, 1}, {5, 3, 1}, {6, 3, 1}, {7, 3, 1}, {8, 3, 1}, {9, 3, 1}}, {{0, 1, 2}}};
+        for (int order = 0; order < parts.length; order++) {
+            for (int part = 0; part < 12; part++) {
+                for (int what = 0; what < 3; what++) {
+                    int o = order;
+                    int i = part;
+                    int w = what;
+                    edges.answers("13 of a full object: " + o + ", " + i + ", " + w,
+                            i < parts[o].length ? parts[o][i][w] : -1, full, x -> x.flow(o, i, w));
+                }
+            }
+        }
+        int[][] bars = {{0, -1}, {0, 2, -1}, {0, -1}, {1, -1}, {-1}};
+        for (int good = 0; good < bars.length; good++) {
+            for (int place = 0; place < bars[good].length; place++) {
+                int g = good;
+                int i = place;
+                edges.answers("12 of a full object: " + g + ", " + i, bars[g][i], full, x -> x.bars(g, 99, i));
+            }
         }
     }
 

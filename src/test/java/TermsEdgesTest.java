@@ -29,6 +29,7 @@ public final class TermsEdgesTest {
         partsAreNoKits();
         kitIsNeverTaken();
         atMostTenOrders();
+        tenOrdersOfThreeParts();
         demandsOfAKit();
         demandsOfAGood();
         metFromItsGoodOrAStandIn();
@@ -313,6 +314,41 @@ public final class TermsEdgesTest {
                 x.order(0, 0, 2, 1);
             }
         }, x -> x.order(0, 0, 1, 1));
+    }
+
+    /** "at most 10" orders, each with the most demands that there can be, all of which can be met from elsewhere. */
+    private static void tenOrdersOfThreeParts() {
+        String sentence = "ten orders of three parts: ";
+        Edges.Start start = x -> {
+            x.kit(5, 0, 1);
+            x.kit(5, 1, 2);
+            x.kit(5, 2, 3);
+            x.standIn(3, 2, true);
+            x.arrival(0, 0, 10);
+            x.arrival(0, 1, 20);
+            x.arrival(1, 2, 31);
+            x.arrival(0, 3, 30);
+            for (int i = 0; i < 10; i++) {
+                x.order(9, 5, 1, 9 - i % 9);
+            }
+        };
+        edges.answers(sentence + "all are covered", 10, start, x -> x.count(2));
+        edges.answers(sentence + "their demands", 60, start, x -> x.count(5));
+        edges.answers(sentence + "no other kit", 0, start, x -> x.promise(5, 9));
+        edges.answers(sentence + "the last part of the last one", 3, start, x -> x.flow(9, 2, 0));
+        edges.answers(sentence + "how many of it", 3, start, x -> x.flow(9, 2, 2));
+        edges.answers(sentence + "no more parts of it", -1, start, x -> x.flow(9, 3, 0));
+        edges.answers(sentence + "all can be met from elsewhere", 30, start, x -> x.promise(3, 9));
+        edges.answers(sentence + "the last one bars as well", 9, start, x -> x.bars(3, 9, 9));
+        edges.answers(sentence + "none falls when all can be met from elsewhere", 0, start, x -> x.aside(3, 30));
+        edges.answers(sentence + "one of ten falls", 1, x -> {
+            start.on(x);
+            x.aside(3, 30);
+        }, x -> x.aside(2, 2));
+        edges.answers(sentence + "of the greatest rank the greatest number", 1, x -> {
+            start.on(x);
+            x.aside(0, 1);
+        }, x -> x.state(9));
     }
 
     /** "if the good is a kit, for each part, in the order of the recipe, so many times the part's number". */
